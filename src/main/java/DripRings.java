@@ -823,7 +823,6 @@ public final class DripRings {
             cut();
             law.becomeAsAtFirst();
             here = 0;
-            faulty = false;
             hadR = false;
             hadL = false;
             hadT = false;
