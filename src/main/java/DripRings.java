@@ -908,33 +908,31 @@ public final class DripRings {
 
         private void cut() {
             int some = 0;
-            int at = 0;
-            while (at < length) {
-                int next = at + 1;
-                if (isDigit(text[at])) {
-                    next = cutNumber(at, some);
+            boolean inNumber = false;
+            for (int at = 0; at < length; at++) {
+                boolean digit = isDigit(text[at]);
+                if (digit && inNumber) {
+                    lengthen(some - 1, text[at] - '0');
+                } else if (digit) {
+                    put(some, NUMBER, at, text[at] - '0');
                     some++;
                 } else if (text[at] != ' ') {
                     put(some, isSign(text[at]) ? text[at] : WRONG, at, 0);
                     some++;
                 }
-                at = next;
+                inNumber = digit;
             }
             put(some, END, length, 0);
         }
 
-        /** The place behind the NUMBER's last digit. */
-        private int cutNumber(int start, int place) {
-            int at = start;
-            int value = 0;
-            while (at < length && isDigit(text[at])) {
-                // What is above 200 needs not be told apart, and so can't run over.
-                value = Math.min(value * 10 + text[at] - '0', MOST_NUMBER + 1);
-                at++;
+        /** One more digit of the NUMBER at that place. */
+        private void lengthen(int place, int digit) {
+            boolean ledByZero = values[place] == 0;
+            // What is above 200 needs not be told apart, and so can't run over.
+            values[place] = Math.min(values[place] * 10 + digit, MOST_NUMBER + 1);
+            if (ledByZero || values[place] > MOST_NUMBER) {
+                tokens[place] = WRONG;
             }
-            boolean ledByZero = text[start] == '0' && at - start > 1;
-            put(place, value > MOST_NUMBER || ledByZero ? WRONG : NUMBER, start, value);
-            return at;
         }
 
         private void put(int place, int token, int start, int value) {

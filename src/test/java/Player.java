@@ -26,14 +26,17 @@ final class Player {
     long call(String name, int... numbers) {
         calls++;
         Method m = FACE.get(name);
+        if (m == null || m.getParameterCount() != numbers.length) {
+            throw new IllegalArgumentException("no call: " + name + " of " + numbers.length + " numbers");
+        }
         Object[] given = new Object[numbers.length];
         for (int i = 0; i < numbers.length; i++) {
             given[i] = numbers[i];
         }
         try {
             return ((Number) m.invoke(rings, given)).longValue();
-        } catch (ReflectiveOperationException | NullPointerException | IllegalArgumentException e) {
-            throw new IllegalStateException("no call: " + name + " with " + numbers.length + " numbers", e);
+        } catch (ReflectiveOperationException e) {
+            throw new IllegalStateException(name + " does not answer", e);
         }
     }
 
