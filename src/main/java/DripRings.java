@@ -9,6 +9,9 @@ public final class DripRings {
     private static final int LAST_NIGHT = 120;
     private static final int NIGHTS = LAST_NIGHT + 1;
     private static final int MOST_RINGS = 1000000;
+    private static final int MOST_PAID = 1000000;
+    private static final int MOST_PRICED = 1000000;
+    private static final int MOST_SACKS = 1000;
     private static final int MOST_WEIGHT = 1000000000;
     private static final int MOST_DUE = 200;
     private static final int MOST_DUES = 6;
@@ -163,7 +166,7 @@ public final class DripRings {
     }
 
     public long pays(int w) {
-        if (isOutside(w, 1, MOST_RINGS)) {
+        if (isOutside(w, 1, MOST_PAID)) {
             return BAD;
         }
         if (rings.lump < w) {
@@ -325,7 +328,7 @@ public final class DripRings {
     }
 
     public long barley(int b, int w) {
-        if (isOutside(b, 1, 1000) || isOutside(w, 0, MOST_RINGS)) {
+        if (isOutside(b, 1, MOST_SACKS) || isOutside(w, 0, MOST_PRICED)) {
             return BAD;
         }
         long gold = rings.weightWithLump(law);
